@@ -98,6 +98,10 @@ public final class AskedBookImagesTest {
         due.is("the book is not in an image", x.told(15), 0);
         for (int i = 1; i <= 20; i++) x.write(0);
         due.is("all right", x.told(16), -1);
+        x.tear();
+        x.write(5);
+        x.tear();
+        due.is("what was torn is not wrong", x.told(16), -1);
     }
 
     private static void seed() {
@@ -176,6 +180,18 @@ public final class AskedBookImagesTest {
         x.undo(2);
         x.hear(-10, 0);
         due.is("learned as ahead of what was undone", x.span(4, 0), 10000 + 10 * 16 / 8);
+        x.warm(-20);
+        x.tick(1);
+        x.keep(1);
+        x.goBack(0);
+        x.hear(-10, 0);
+        due.is("learned of the span of image 0", x.span(4, 0), 10020);
+        due.is("not of that of image 1", x.span(0, 0), 10000);
+        x.goBack(1);
+        long aim = x.time(2) - x.time(0);
+        x.hear(0, 0);
+        due.is("learned of the span that is in the image", x.span(0, 0), 10000 + aim * 16 / 2);
+        due.is("not of another", x.span(4, 0), 10020);
     }
 
     public static void main(String[] args) {

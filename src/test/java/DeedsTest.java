@@ -32,6 +32,21 @@ public final class DeedsTest {
         for (int n : new int[] {0, -1, 2001, Integer.MIN_VALUE, Integer.MAX_VALUE}) refused(x, before, "tick(" + n + ")", x.tick(n), OUTSIDE);
     }
 
+    /** Every sum of the sixteenths, to either side, is parted rounded down. */
+    private static void restIsRoundedDown() {
+        for (int learned : new int[] {1, -1, 15, -15, 16, -16, 17, -17, 9999, -9999}) {
+            BoardClock x = new BoardClock();
+            x.learn(4, learned);
+            long sum = 0;
+            for (int i = 1; i <= 17; i++) {
+                x.tick(1);
+                sum -= learned;
+                due.is("beats of " + i + " ticks, learned " + learned, x.time(1) - x.time(0), Math.floorDiv(sum, 16L));
+                due.is("rest of " + i + " ticks, learned " + learned, x.told(3), Math.floorMod(sum, 16L));
+            }
+        }
+    }
+
     private static void stepsBack() {
         BoardClock x = new BoardClock();
         x.hear(-50, 0);
@@ -169,6 +184,16 @@ public final class DeedsTest {
         due.is("aim: -107 to -104 rounded down", y.time(2), -106);
         due.is("width: to -104", y.told(5), 32);
         due.is("broken", y.told(10), 1);
+        BoardClock z = new BoardClock();
+        z.bound(1, 1);
+        z.tick(31);
+        due.is("heard 17 ahead, exact to 16", z.hear(17, 16), 0);
+        due.is("aim: 16 to 31 sixteenths, 47 / 32", z.time(2) - z.time(0), 1);
+        due.is("width: to 31", z.told(5), 15);
+        z.undo(1);
+        z.hear(16, 16);
+        due.is("aim: 0 to 31 sixteenths, 31 / 32", z.time(2) - z.time(0), 0);
+        due.is("width: to 31", z.told(5), 31);
         String before = Due.picture(y);
         int[][] wrong = {{-10000, 0}, {10000, 0}, {0, -1}, {0, 5001}, {Integer.MIN_VALUE, 0}, {0, Integer.MIN_VALUE}, {0, Integer.MAX_VALUE}};
         for (int[] w : wrong) refused(y, before, "hear(" + w[0] + ", " + w[1] + ")", y.hear(w[0], w[1]), OUTSIDE);
@@ -251,6 +276,28 @@ public final class DeedsTest {
         due.is("has no rings", x.alarmAt(4, 3), 0);
         for (int i = 4; i >= 0; i--) due.is("drop(0)", x.drop(0), i);
         due.is("none left", x.drop(0), UNKNOWN);
+        due.is("no rings left", x.told(13), 0);
+        due.is("none to ring", x.tick(70), 0);
+        due.is("none to come", x.rings(70), 0);
+        x.alarm(-1, -1, -1);
+        x.alarm(1, 2, 3);
+        x.alarm(4, 5, 6);
+        x.tick(2);
+        due.is("rings of the first", x.alarmAt(0, 3), 2);
+        x.drop(0);
+        for (int i = 0; i < 3; i++) {
+            due.is("the second is the first, " + i, x.alarmAt(0, i), 1 + i);
+            due.is("the third is the second, " + i, x.alarmAt(1, i), 4 + i);
+        }
+        x.undo(1);
+        due.is("undone: any weekday", x.alarmAt(0, 2), -1);
+        due.is("undone: weekday 3", x.alarmAt(1, 2), 3);
+        BoardClock y = new BoardClock();
+        y.alarm(-1, -1, -1);
+        y.tick(5);
+        y.drop(0);
+        y.alarm(-1, -1, -1);
+        due.is("in the place of one that rang: no rings", y.alarmAt(0, 3), 0);
     }
 
     private static void learn() {
@@ -288,6 +335,34 @@ public final class DeedsTest {
         x.seed(353);
         x.drift(20);
         due.is("twenty times are twenty deeds", x.told(17), 20);
+    }
+
+    /** Each time by draws does what its draws say, as the call of that name would. */
+    private static void driftDoesAsDrawn() {
+        int[] kinds = new int[8];
+        for (int start = 0; start < 200; start++) {
+            BoardClock x = new BoardClock(), y = new BoardClock();
+            for (BoardClock z : new BoardClock[] {x, y}) {
+                z.alarm(-1, -1, -1);
+                z.hear(-700 + 7 * start, 100);
+                z.tick(3);
+            }
+            long seed = start * 10000019L;
+            x.seed((int) seed);
+            int[] draws = new int[3];
+            int[] of = {8, 90, 1001};
+            for (int i = 0; i < 3; i++) {
+                seed = (seed * 1103515245L + 12345L) % 2147483648L;
+                draws[i] = (int) (seed / 65536 % of[i]);
+            }
+            kinds[draws[0]]++;
+            x.drift(1);
+            if (draws[0] == 0) y.warm(draws[1] - 20);
+            else if (draws[0] == 1) y.hear(draws[2] - 500, 500);
+            else y.tick(1);
+            due.alike("drift(1), draw " + draws[0], Due.picture(x), Due.picture(y));
+        }
+        for (int kind = 0; kind < 8; kind++) due.holds("draws of " + kind + " were seen", kinds[kind] > 0);
     }
 
     private static void undo() {
@@ -353,6 +428,7 @@ public final class DeedsTest {
 
     public static void main(String[] args) {
         tick();
+        restIsRoundedDown();
         stepsBack();
         widthHasAnEnd();
         rings();
@@ -368,6 +444,7 @@ public final class DeedsTest {
         drop();
         learn();
         drift();
+        driftDoesAsDrawn();
         undo();
         undoLeavesSeedAndBook();
         due.end();
