@@ -689,42 +689,58 @@ public final class BoardClock {
         }
 
         int countFitting(int a, long first, long last) {
-            int fitting = 0;
-            for (long m = first + 1; m <= last; m++) {
-                if (fitsDay(a, m) && fitsHour(a, m) && fitsMinute(a, m)) {
-                    fitting++;
+            return (int) (fittingAheadOf(a, last + 1) - fittingAheadOf(a, first + 1));
+        }
+
+        /** How many minutes from 0 on, ahead of m, fit: those of whole days, then of whole hours, then the others. */
+        long fittingAheadOf(int a, long m) {
+            if (!has(a)) {
+                return 0;
+            }
+            long days = m / MINUTES_PER_DAY;
+            long inHour = fittingBelow(minutes[a], MINUTES_PER_HOUR);
+            long inDay = fittingBelow(hours[a], HOURS_PER_DAY) * inHour;
+            long fittingDays = days / DAYS_PER_WEEK * fittingBelow(weekdays[a], DAYS_PER_WEEK) + fittingBelow(weekdays[a], days % DAYS_PER_WEEK);
+            long fitting = fittingDays * inDay;
+            if (fits(weekdays[a], weekdayOf(m))) {
+                fitting += fittingBelow(hours[a], hourOf(m)) * inHour;
+                if (fits(hours[a], hourOf(m))) {
+                    fitting += fittingBelow(minutes[a], minuteOf(m));
                 }
             }
             return fitting;
         }
 
+        boolean fits(int field, int number) {
+            return field == NONE || field == number;
+        }
+
+        /** How many of the numbers from 0 on, below the end, fit a field. */
+        long fittingBelow(int field, long end) {
+            if (field == NONE) {
+                return end;
+            }
+            return field < end ? 1 : 0;
+        }
+
         /** The least fitting minute behind the one given; whole days and hours that cannot fit are passed over. */
         long nextFit(int a, long behind) {
+            if (!has(a)) {
+                return NONE;
+            }
             long m = behind + 1;
             for (int i = 0; i < JUMPS_MOST; i++) {
-                if (!fitsDay(a, m)) {
+                if (!fits(weekdays[a], weekdayOf(m))) {
                     m = (m / MINUTES_PER_DAY + 1) * MINUTES_PER_DAY;
-                } else if (!fitsHour(a, m)) {
+                } else if (!fits(hours[a], hourOf(m))) {
                     m = (m / MINUTES_PER_HOUR + 1) * MINUTES_PER_HOUR;
-                } else if (!fitsMinute(a, m)) {
+                } else if (!fits(minutes[a], minuteOf(m))) {
                     m++;
                 } else {
                     return m;
                 }
             }
             return NONE;
-        }
-
-        boolean fitsDay(int a, long m) {
-            return has(a) && (weekdays[a] == NONE || weekdays[a] == weekdayOf(m));
-        }
-
-        boolean fitsHour(int a, long m) {
-            return has(a) && (hours[a] == NONE || hours[a] == hourOf(m));
-        }
-
-        boolean fitsMinute(int a, long m) {
-            return has(a) && (minutes[a] == NONE || minutes[a] == minuteOf(m));
         }
     }
 }

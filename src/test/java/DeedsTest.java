@@ -369,22 +369,24 @@ public final class DeedsTest {
         BoardClock x = new BoardClock();
         due.is("undo(1) of nothing", x.undo(1), NOT);
         String[] pictures = new String[31];
-        pictures[0] = Due.picture(x);
+        pictures[0] = Due.pictureButUndoable(x);
         for (int i = 1; i <= 30; i++) {
             someDeed(x, i);
-            pictures[i] = Due.picture(x);
+            pictures[i] = Due.pictureButUndoable(x);
         }
+        String before = Due.picture(x);
         due.is("20 at most", x.told(17), 20);
-        for (int n : new int[] {0, -1, 21, Integer.MIN_VALUE, Integer.MAX_VALUE}) refused(x, pictures[30], "undo(" + n + ")", x.undo(n), OUTSIDE);
+        for (int n : new int[] {0, -1, 21, Integer.MIN_VALUE, Integer.MAX_VALUE}) refused(x, before, "undo(" + n + ")", x.undo(n), OUTSIDE);
         due.is("undo(1)", x.undo(1), 19);
-        due.alike("as ahead of the last", apartFromUndoable(x), cut(pictures[29]));
+        due.alike("as ahead of the last", Due.pictureButUndoable(x), pictures[29]);
         due.is("undo(5)", x.undo(5), 14);
-        due.alike("as ahead of six", apartFromUndoable(x), cut(pictures[24]));
-        refused(x, Due.picture(x), "undo(15)", x.undo(15), NOT);
+        due.alike("as ahead of six", Due.pictureButUndoable(x), pictures[24]);
+        before = Due.picture(x);
+        refused(x, before, "undo(15)", x.undo(15), NOT);
         someDeed(x, 25);
-        due.alike("the same deed again", apartFromUndoable(x), cut(pictures[25]));
+        due.alike("the same deed again", Due.pictureButUndoable(x), pictures[25]);
         due.is("undo(15)", x.undo(15), 0);
-        due.alike("as ahead of all that are kept", apartFromUndoable(x), cut(pictures[10]));
+        due.alike("as ahead of all that are kept", Due.pictureButUndoable(x), pictures[10]);
         due.is("no more", x.undo(1), NOT);
     }
 
@@ -413,17 +415,6 @@ public final class DeedsTest {
             case 8: x.drop(0); break;
             default: x.bound(1, i); break;
         }
-    }
-
-    /** told(17) is the eighteenth of the picture; it goes down as deeds are undone. */
-    private static String cut(String picture) {
-        String[] parts = picture.split(" ");
-        parts[17] = "";
-        return String.join(" ", parts);
-    }
-
-    private static String apartFromUndoable(BoardClock x) {
-        return cut(Due.picture(x));
     }
 
     public static void main(String[] args) {

@@ -1,6 +1,7 @@
 /** Counts the answers that a test looked at, and prints those that are not as due. */
 final class Due {
     private final String name;
+    private String sentence = "";
     private int looked = 0;
     private int wrong = 0;
 
@@ -8,12 +9,14 @@ final class Due {
         this.name = name;
     }
 
+    /** The words of the document that the answers from here on are of: printed with each one that is not as due. */
+    void sentence(String words) {
+        sentence = words;
+    }
+
     void is(String what, long got, long want) {
         looked++;
-        if (got != want) {
-            wrong++;
-            System.out.println(name + ": " + what + " answered " + got + ", due is " + want);
-        }
+        if (got != want) tell(what + " answered " + got + ", due is " + want);
     }
 
     void holds(String what, boolean is) {
@@ -31,12 +34,21 @@ final class Due {
         return all.toString();
     }
 
+    /** The picture without told(17), which goes down as deeds are undone. */
+    static String pictureButUndoable(BoardClock x) {
+        String[] parts = picture(x).split(" ");
+        parts[17] = "";
+        return String.join(" ", parts);
+    }
+
     void alike(String what, String got, String want) {
         looked++;
-        if (!got.equals(want)) {
-            wrong++;
-            System.out.println(name + ": " + what + "\n  is  " + got + "\n  due " + want);
-        }
+        if (!got.equals(want)) tell(what + "\n  is  " + got + "\n  due " + want);
+    }
+
+    private void tell(String fault) {
+        wrong++;
+        System.out.println(name + ": " + (sentence.isEmpty() ? "" : "[" + sentence + "] ") + fault);
     }
 
     void end() {

@@ -103,9 +103,27 @@ public final class RandomRunsTest {
         all(x, y, run);
     }
 
+    /** Weeks pass by large calls, so that rings are counted over whole days and weeks. */
+    private static void longRun(int run) {
+        random = new Random(run);
+        BoardClock x = new BoardClock();
+        PlainClock y = new PlainClock();
+        for (int i = 0; i < 60; i++) {
+            int a = random.nextBoolean() ? -1 : random.nextInt(60), b = random.nextBoolean() ? -1 : random.nextInt(24), c = random.nextBoolean() ? -1 : random.nextInt(7);
+            if (i % 10 == 9) due.is(run + " drop(0)", x.drop(0), y.drop(0));
+            due.is(run + " alarm(" + a + ", " + b + ", " + c + ")", x.alarm(a, b, c), y.alarm(a, b, c));
+            int n = random.nextBoolean() ? 2000 : 1 + random.nextInt(2000);
+            due.is(run + " rings(" + n + ")", x.rings(n), y.rings(n));
+            due.is(run + " tick(" + n + ")", x.tick(n), y.tick(n));
+            due.is(run + " hear(0, 0)", x.hear(0, 0), y.hear(0, 0));
+            all(x, y, run);
+        }
+    }
+
     public static void main(String[] args) {
         for (int run = 1; run <= 400; run++) mixedRun(run);
         for (int run = 1001; run <= 1010; run++) fastRun(run);
+        for (int run = 2001; run <= 2030; run++) longRun(run);
         due.end();
     }
 }
