@@ -139,6 +139,22 @@ public final class EdgesOfAskedTest {
         }
     }
 
+    private static void untilDoneByLeastAndMostStep() {
+        due.sentence("(0, if it is; 2000 at most; NONE: more, or never)");
+        BoardClock x = new BoardClock();
+        x.bound(0, 1);
+        x.hear(1, 0);
+        due.is("1 by 1", x.told(14), 1);
+        x.hear(2000, 0);
+        due.is("2000 by 1", x.told(14), 2000);
+        x.hear(2001, 0);
+        due.is("2001 by 1", x.told(14), -1);
+        x.bound(0, 200);
+        due.is("2001 by 200", x.told(14), 11);
+        x.hear(200, 0);
+        due.is("200 by 200", x.told(14), 1);
+    }
+
     private static void untilDoneIsSo() {
         due.sentence("how many TICKS until AHEAD is 0");
         BoardClock x = new BoardClock();
@@ -194,6 +210,33 @@ public final class EdgesOfAskedTest {
             x.alarm(row[0], row[1], row[2]);
             due.is("alarm(" + row[0] + ", " + row[1] + ", " + row[2] + ") from minute 0", x.alarmAt(0, 4), row[3]);
         }
+    }
+
+    private static void nextOfEachField() {
+        due.sentence("the least MINUTE behind that of BOARD TIME that FITS");
+        for (int day = 1; day <= 6; day++) {
+            BoardClock x = new BoardClock();
+            x.alarm(-1, -1, day);
+            due.is("weekday " + day, x.alarmAt(0, 4), day * DAY);
+            due.is("from the minute before", nextFrom(x, day * DAY - 1), day * DAY);
+        }
+        for (int hour = 1; hour <= 23; hour++) {
+            BoardClock x = new BoardClock();
+            x.alarm(-1, hour, -1);
+            due.is("hour " + hour, x.alarmAt(0, 4), hour * 60);
+            due.is("from its last minute: the next day", nextFrom(x, hour * 60 + 59), DAY + hour * 60);
+        }
+        for (int minute = 1; minute <= 59; minute++) {
+            BoardClock x = new BoardClock();
+            x.alarm(minute, -1, -1);
+            due.is("minute " + minute, x.alarmAt(0, 4), minute);
+            due.is("from there: the next hour", nextFrom(x, minute), 60 + minute);
+        }
+    }
+
+    private static int nextFrom(BoardClock x, int minute) {
+        for (int left = minute; left > 0; left -= 2000) x.tick(Math.min(left, 2000));
+        return x.alarmAt(0, 4);
     }
 
     /** The minute that is now does not count; the one behind the week's last is in the next week. */
@@ -372,6 +415,7 @@ public final class EdgesOfAskedTest {
     private static BoardClock begun() {
         BoardClock x = new BoardClock();
         x.alarm(-1, -1, -1);
+        x.alarm(7, 8, 5);
         x.learn(4, -5);
         x.hear(99, 0);
         x.tick(2);
@@ -383,11 +427,37 @@ public final class EdgesOfAskedTest {
         for (int kind = 0; kind <= 10; kind++) {
             BoardClock x = begun(), y = begun();
             due.holds("deed " + kind + " is not refused", deed(x, kind) >= 0);
-            due.is("deed " + kind + " is one", x.told(17), 5);
-            due.is("deed " + kind + " undone", x.undo(1), 4);
+            due.is("deed " + kind + " is one", x.told(17), 6);
+            due.is("deed " + kind + " undone", x.undo(1), 5);
             due.alike("as ahead of deed " + kind, Due.picture(x), Due.picture(y));
             due.alike("and so it goes on", future(x), future(y));
         }
+    }
+
+    /** How the ticks since the latest one heard went is in section 1 too: it is seen by what is learned. */
+    private static void lessonsAreUndone() {
+        due.sentence("all of sections 1, 2 is as ahead of them");
+        BoardClock x = begun(), y = begun();
+        x.power(false);
+        x.tick(1);
+        due.is("a tick without power undone", x.undo(2), 5);
+        due.alike("it learns from the others", future(x), future(y));
+        x = begun();
+        y = begun();
+        x.hear(0, 0);
+        x.warm(-20);
+        x.tick(1);
+        due.is("a tick in another span undone", x.undo(3), 5);
+        due.alike("it learns of the span of the others", future(x), future(y));
+        x = begun();
+        y = begun();
+        x.keep(1);
+        x.hear(0, 0);
+        x.warm(-20);
+        x.power(false);
+        x.tick(1);
+        x.goBack(1);
+        due.alike("in an image as well", future(x), future(y));
     }
 
     private static void deedsThatChangeNothingAreUndone() {
@@ -543,10 +613,12 @@ public final class EdgesOfAskedTest {
         ringsAfter();
         ringsAfterAsCounted();
         untilDone();
+        untilDoneByLeastAndMostStep();
         untilDoneIsSo();
         untilWideBounds();
         untilWide();
         next();
+        nextOfEachField();
         nextIsBehind();
         holds();
         fit();
@@ -557,6 +629,7 @@ public final class EdgesOfAskedTest {
         drawnTimeHeard();
         drawnTick();
         eachDeedIsUndone();
+        lessonsAreUndone();
         deedsThatChangeNothingAreUndone();
         othersAreNoDeeds();
         twentyAreKept();
